@@ -47,11 +47,11 @@ final class Check {
     /** The call saves one state, and undo restores all looks. */
     static void undoable(String what, HintedPages pages, LongSupplier call) {
         int saved = Math.min(pages.count(11) + 1, 6);
-        String before = Scenes.looks(pages);
+        String before = Looks.of(pages).all();
         call.getAsLong();
         same(what + " saves a state", pages.count(11), saved);
         same(what + ", undone", pages.undo(), saved - 1);
-        same(what + ", undone: looks", Scenes.looks(pages), before);
+        same(what + ", undone: looks", Looks.of(pages).all(), before);
         call.getAsLong();
     }
 

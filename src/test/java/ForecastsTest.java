@@ -7,6 +7,7 @@ public final class ForecastsTest {
         ifRewritten();
         ifRewrittenRefuses();
         bestRule();
+        bestRuleInTheMiddle();
         bestRuleRefuses();
         amplification();
         digest();
@@ -85,6 +86,11 @@ public final class ForecastsTest {
             Check.same("nothing is changed", pages.digest(), before);
             Check.same("rounds " + rounds, told, copiesByHand(pages, rounds));
         }
+        HintedPages copied = Scenes.tight();
+        copied.writeRow(0, 40, 2);
+        Check.same("copies before", copied.count(7) > 0 ? 1 : 0, 1);
+        int more = copied.ifRewritten(2);
+        Check.same("copies by these alone", more, copiesByHand(copied, 2));
         HintedPages kept = mixed();
         kept.set(0, 2);
         kept.set(1, 4);
@@ -103,7 +109,7 @@ public final class ForecastsTest {
     private static void bestRule() {
         Check.same("of several the lowest", new HintedPages().bestRule(9), 0);
         int[] told = new int[3];
-        for (int seed = 1; seed < 60; seed++) {
+        for (int seed = 1; seed < 200; seed++) {
             HintedPages pages = new HintedPages();
             for (int i = 0; i < 20; i++) {
                 pages.writeRow((seed * 7 + i * 11) % 40, 1, (i * seed) % 4);
@@ -119,6 +125,21 @@ public final class ForecastsTest {
         for (int rule = 0; rule < 3; rule++) {
             Check.same("rule " + rule + " is best now and then", told[rule] > 0 ? 1 : 0, 1);
         }
+    }
+
+    /** Copies by the rules 0 to 2: 61, 59 and 60. */
+    private static void bestRuleInTheMiddle() {
+        HintedPages pages = new HintedPages();
+        for (int i = 0; i < 20; i++) {
+            pages.writeRow((113 * 7 + i * 11) % 40, 1, (i * 113) % 4);
+            pages.writeRow(0, (i * 13 + 113) % 9 + 1, i % 4);
+            if (i % 5 == 0) {
+                pages.writeRow(i * 113 % 30, 10, (i + 113) % 4);
+            }
+        }
+        pages.set(1, 4);
+        Check.same("best by hand", bestByHand(pages, 1), 1);
+        Check.same("best of two that beat the rule 0", pages.bestRule(1), 1);
     }
 
     private static int bestByHand(HintedPages pages, int rounds) {
@@ -166,69 +187,21 @@ public final class ForecastsTest {
 
     private static void amplifies(HintedPages pages, double due) {
         Check.same("amplification", Double.doubleToLongBits(pages.amplification()), Double.doubleToLongBits(due));
-        Check.same("its bits in the digest", pages.digest(), digestByFace(pages, ""));
+        Check.same("its bits in the digest", pages.digest(), Looks.of(pages).digestWith(""));
     }
 
     private static void digest() {
-        Check.same("a new object", new HintedPages().digest(), digestByFace(new HintedPages(), ""));
-        Check.same("a full store", Scenes.tight().digest(), digestByFace(Scenes.tight(), ""));
-        Check.same("many hints", mixed().digest(), digestByFace(mixed(), ""));
+        Check.same("a new object", new HintedPages().digest(), Looks.of(new HintedPages()).digestWith(""));
+        Check.same("a full store", Scenes.tight().digest(), Looks.of(Scenes.tight()).digestWith(""));
+        Check.same("many hints", mixed().digest(), Looks.of(mixed()).digestWith(""));
         HintedPages pages = mixed();
         pages.set(0, 1);
         pages.set(1, 3);
         Scenes.type(pages, "1-2h3;~!");
-        Check.same("with a buffer", pages.digest(), digestByFace(pages, "1-2h3;~!"));
+        Check.same("with a buffer", pages.digest(), Looks.of(pages).digestWith("1-2h3;~!"));
         long before = pages.digest();
         Check.same("nothing is changed", pages.digest(), before);
         pages.clearBuffer();
         Check.same("the buffer counts", pages.digest() == before ? 1 : 0, 0);
-    }
-
-    private static long digestByFace(HintedPages pages, String buffer) {
-        Hash hash = new Hash();
-        for (int what = 0; what <= 11; what++) {
-            hash.add(pages.count(what));
-        }
-        hash.add(pages.setting(0));
-        hash.add(pages.setting(1));
-        for (int page = 0; page < 40; page++) {
-            for (int what = 0; what <= 5; what++) {
-                hash.add(pages.page(page, what));
-            }
-        }
-        for (int block = 0; block < 12; block++) {
-            for (int what = 0; what <= 7; what++) {
-                hash.add(pages.block(block, what));
-            }
-            for (int slot = 0; slot < 8; slot++) {
-                hash.add(pages.slot(block, slot, false));
-            }
-        }
-        for (int stream = 0; stream < 5; stream++) {
-            for (int what = 0; what <= 4; what++) {
-                hash.add(pages.stream(stream, what));
-            }
-        }
-        for (int hint = 0; hint < 4; hint++) {
-            for (int what = 0; what <= 2; what++) {
-                hash.add(pages.ifWritten(0, hint, what));
-            }
-        }
-        hash.add(pages.ifRewritten(1));
-        hash.add(pages.bestRule(2));
-        hash.add(Double.doubleToLongBits(pages.amplification()));
-        hash.add(buffer.length());
-        for (char character : buffer.toCharArray()) {
-            hash.add(character);
-        }
-        return hash.value;
-    }
-
-    private static final class Hash {
-        private long value = 2731;
-
-        private void add(long next) {
-            value = 31 * value + next;
-        }
     }
 }

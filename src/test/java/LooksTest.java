@@ -8,6 +8,7 @@ public final class LooksTest {
         slot();
         stream();
         count();
+        spreadOfErasures();
         victims();
         setting();
         refusals();
@@ -144,6 +145,27 @@ public final class LooksTest {
         }
     }
 
+    private static void spreadOfErasures() {
+        HintedPages pages = new HintedPages();
+        for (int i = 0; i < 12; i++) {
+            pages.writeRow(0, 8, 1);
+            int block = pages.page(0, 0);
+            Check.same("blocks by turns", block, i);
+            for (int page = 0; page < 8; page++) {
+                pages.trim(page);
+            }
+            pages.collect(block);
+            Check.same("spread", pages.count(9), i == 11 ? 0 : 1);
+        }
+        pages.writeRow(0, 8, 1);
+        pages.collect(pages.page(0, 0));
+        Check.same("two less one", pages.count(9), 1);
+        Check.same("erasures", pages.count(8), 13);
+        HintedPages other = Scenes.spread();
+        other.collect(4);
+        Check.same("not of the block 0", other.count(9), 1);
+    }
+
     private static void victims() {
         HintedPages pages = Scenes.spread();
         victimsAre(pages, 0, 0, 0);
@@ -155,9 +177,9 @@ public final class LooksTest {
         pages.collect(7);
         pages.collect(0);
         victimsAre(pages, 1, 1, 1);
-        // The block 0 is opened again, as it is among the free ones with fewest erasures.
+        // The erased block 0 is the lowest of those with one erasure, and so is opened again.
         pages.set(1, 2);
-        while (pages.block(0, 0) != 2) {
+        for (int i = 0; i < 200 && pages.block(0, 0) != 2; i++) {
             pages.write(20, 0);
         }
         Check.same("an erased block, closed again", pages.block(0, 5), 1);
@@ -197,7 +219,7 @@ public final class LooksTest {
         int[] unlike = new int[4];
         HintedPages pages = new HintedPages();
         for (int i = 0; i < 1500; i++) {
-            // An object is used for 512 calls: each step takes some 100 of them.
+            // Anew after a few steps, as each takes some hundred of the 512 calls of an object.
             if (i % 4 == 0) {
                 pages = worn(i);
             }

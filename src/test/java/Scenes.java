@@ -36,36 +36,4 @@ final class Scenes {
             pages.append(text.charAt(i));
         }
     }
-
-    /** All that looks tell, but for the number of saved states. */
-    static String looks(HintedPages pages) {
-        StringBuilder looks = new StringBuilder();
-        for (int what = 0; what <= 10; what++) {
-            looks.append(pages.count(what)).append(' ');
-        }
-        looks.append("settings ").append(pages.setting(0)).append(' ').append(pages.setting(1));
-        for (int page = 0; page < 40; page++) {
-            looks.append(" page");
-            for (int what = 0; what <= 5; what++) {
-                looks.append(' ').append(pages.page(page, what));
-            }
-        }
-        for (int block = 0; block < 12; block++) {
-            looks.append(" block");
-            for (int what = 0; what <= 7; what++) {
-                looks.append(' ').append(pages.block(block, what));
-            }
-            for (int slot = 0; slot < 8; slot++) {
-                looks.append(' ').append(pages.slot(block, slot, false));
-                looks.append(' ').append(pages.slot(block, slot, true));
-            }
-        }
-        for (int stream = 0; stream < 5; stream++) {
-            looks.append(" stream");
-            for (int what = 0; what <= 4; what++) {
-                looks.append(' ').append(pages.stream(stream, what));
-            }
-        }
-        return looks.toString();
-    }
 }

@@ -185,6 +185,11 @@ public final class TextsTest {
         pages.undo();
         Check.same("undone once", pages.page(21, 0), -1);
         Check.same("kept", pages.page(20, 0), 1);
+        Check.same("undone twice", pages.undo(), 0);
+        Check.same("not kept", pages.page(20, 0), -1);
+        pages.write(22, 3);
+        Check.same("and once more", pages.undo(), 0);
+        Check.same("nothing of it is left", pages.page(22, 3), 0);
     }
 
     private static void undoLeavesTheBuffer() {
