@@ -4,11 +4,8 @@ public final class BlocksTest {
         collect();
         collectWithoutOldSlots();
         collectClosesTheBlockOfCopies();
-        collectRefuses();
         tidy();
-        tidyRefuses();
         set();
-        setRefuses();
         Check.end("BlocksTest");
     }
 
@@ -23,7 +20,6 @@ public final class BlocksTest {
         Check.same("no stream", pages.block(9, 1), -1);
         Check.same("open for copies", pages.stream(4, 0), 10);
         Check.same("not the victim", pages.count(10), 0);
-        Check.undoable("collect", pages, () -> pages.collect(3));
         Check.same("setting 1 is of no use here", pages.block(0, 5), 0);
     }
 
@@ -53,14 +49,6 @@ public final class BlocksTest {
         Check.same("copies so far", pages.count(7), 14);
     }
 
-    private static void collectRefuses() {
-        HintedPages pages = Scenes.tight();
-        Check.throwsIndex("collect(-1)", pages, () -> pages.collect(-1));
-        Check.throwsIndex("collect(12)", pages, () -> pages.collect(12));
-        Check.throwsState("collect(10), open", pages, () -> pages.collect(10));
-        Check.throwsState("collect(11), free", pages, () -> pages.collect(11));
-    }
-
     private static void tidy() {
         HintedPages pages = Scenes.spread();
         Check.same("enough are free", pages.tidy(2), 0);
@@ -68,13 +56,10 @@ public final class BlocksTest {
         Check.same("two for one", pages.tidy(3), 2);
         Check.same("three are free", pages.count(1), 3);
         Check.same("two copies", pages.count(7), 2);
-        Check.same("one saved state", pages.count(11), 6);
-        Check.undoable("tidy", pages, () -> pages.tidy(5));
-        Check.same("until no victim is left", pages.tidy(12), 6);
+        Check.same("until no victim is left", pages.tidy(12), 8);
         Check.same("all pages are copied", pages.count(7), 11);
         Check.same("no victim", pages.count(10), -1);
         Check.same("nothing to do", pages.tidy(12), 0);
-        Check.undoable("tidy of nothing", pages, () -> pages.tidy(1));
         Check.same("by the rule 1", tidyBy(1), 0);
         Check.same("by the rule 0", tidyBy(0), 5);
     }
@@ -94,13 +79,6 @@ public final class BlocksTest {
         return -1;
     }
 
-    private static void tidyRefuses() {
-        HintedPages pages = Scenes.tight();
-        Check.throwsArgument("tidy(0)", pages, () -> pages.tidy(0));
-        Check.throwsArgument("tidy(-1)", pages, () -> pages.tidy(-1));
-        Check.throwsArgument("tidy(13)", pages, () -> pages.tidy(13));
-    }
-
     private static void set() {
         HintedPages pages = new HintedPages();
         Check.same("rule 2", pages.set(0, 2), 0);
@@ -109,21 +87,5 @@ public final class BlocksTest {
         Check.same("kept 4", pages.set(1, 4), 2);
         Check.same("kept 3", pages.set(1, 3), 4);
         Check.same("kept 2", pages.set(1, 2), 3);
-        Check.undoable("set", pages, () -> pages.set(0, 1));
-        Check.undoable("set to the same", pages, () -> pages.set(0, 1));
-        Check.same("saved states", pages.count(11), 6);
-        pages.set(1, 4);
-        pages.undo();
-        Check.same("undone", pages.setting(1), 2);
-    }
-
-    private static void setRefuses() {
-        HintedPages pages = Scenes.tight();
-        Check.throwsIndex("set(-1, 9)", pages, () -> pages.set(-1, 9));
-        Check.throwsIndex("set(2, 0)", pages, () -> pages.set(2, 0));
-        Check.throwsArgument("set(0, -1)", pages, () -> pages.set(0, -1));
-        Check.throwsArgument("set(0, 3)", pages, () -> pages.set(0, 3));
-        Check.throwsArgument("set(1, 1)", pages, () -> pages.set(1, 1));
-        Check.throwsArgument("set(1, 5)", pages, () -> pages.set(1, 5));
     }
 }

@@ -2,6 +2,10 @@ import java.util.function.LongSupplier;
 
 /** Counts the answers of one test program that are as due, and those that are not. */
 final class Check {
+    static final String INDEX = "throws.IndexOutOfBoundsException";
+    static final String ARGUMENT = "throws.IllegalArgumentException";
+    static final String STATE = "throws.IllegalStateException";
+
     private static int passed = 0;
     private static int failed = 0;
 
@@ -25,34 +29,67 @@ final class Check {
         }
     }
 
-    static void throwsIndex(String what, HintedPages pages, LongSupplier call) {
-        throwsDue(what, "IndexOutOfBoundsException", pages, call);
+    /** The call throws, changes nothing and saves nothing: neither with few saved states nor with most. */
+    static void refused(String what, String due, Scene scene, Call call) {
+        refusedAsItIs(what, due, scene, call);
+        refusedAsItIs(what, due, scene.full(), call);
     }
 
-    static void throwsArgument(String what, HintedPages pages, LongSupplier call) {
-        throwsDue(what, "IllegalArgumentException", pages, call);
+    /** As refused(), with the saved states that the scene has. */
+    static void refusedAsItIs(String what, String due, Scene scene, Call call) {
+        HintedPages pages = scene.make();
+        same(what, answer(() -> call.on(pages)), due);
+        alike(what + " changes nothing", pages, scene.make());
     }
 
-    static void throwsState(String what, HintedPages pages, LongSupplier call) {
-        throwsDue(what, "IllegalStateException", pages, call);
+    /** The call answers, changes nothing and saves nothing. */
+    static void look(String what, Scene scene, Call call) {
+        for (Scene each : new Scene[] {scene, scene.full()}) {
+            HintedPages pages = each.make();
+            same(what + " answers", isThrown(answer(() -> call.on(pages))) ? 0 : 1, 1);
+            alike(what + " changes nothing", pages, each.make());
+        }
     }
 
-    // A call that throws changes nothing: the digest tells all but what the saved states hold.
-    private static void throwsDue(String what, String due, HintedPages pages, LongSupplier call) {
-        long before = pages.digest();
-        same(what, answer(call), "throws." + due);
-        same(what + " changes nothing", pages.digest(), before);
+    /** All numbers of the range are answered; those beside it, and far from it, are refused. */
+    static void range(String what, String due, Scene scene, int least, int most, CallWith call) {
+        for (int number = least; number <= most; number++) {
+            int right = number;
+            HintedPages pages = scene.make();
+            String answer = answer(() -> call.on(pages, right));
+            same(what + " " + number + " is answered", isThrown(answer) ? answer : "", "");
+        }
+        int[] wrongs = {least - 1, most + 1, Integer.MIN_VALUE, Integer.MAX_VALUE, least + 65536, least - 65536};
+        for (int wrong : wrongs) {
+            refused(what + " " + wrong, due, scene, pages -> call.on(pages, wrong));
+        }
     }
 
-    /** The call saves one state, and undo restores all looks. */
-    static void undoable(String what, HintedPages pages, LongSupplier call) {
-        int saved = Math.min(pages.count(11) + 1, 6);
-        String before = Looks.of(pages).all();
-        call.getAsLong();
-        same(what + " saves a state", pages.count(11), saved);
-        same(what + ", undone", pages.undo(), saved - 1);
-        same(what + ", undone: looks", Looks.of(pages).all(), before);
-        call.getAsLong();
+    /** The call saves one state, and undo restores it; those saved before stay, but for a seventh. */
+    static void undoable(String what, Scene scene, Call call) {
+        for (Scene before : new Scene[] {scene, scene.full()}) {
+            HintedPages pages = before.make();
+            int saved = Math.min(pages.count(11) + 1, 6);
+            call.on(pages);
+            same(what + " saves one state", pages.count(11), saved);
+            for (int undone = 1; undone <= saved; undone++) {
+                same(what + ", undone", answer(pages::undo), String.valueOf(saved - undone));
+                same(what + ", undone: looks", Looks.of(before.then(call).undone(undone)).all(),
+                    Looks.of(before.undone(undone - 1)).all());
+            }
+            same(what + ", no more states", answer(pages::undo), STATE);
+        }
+    }
+
+    /** Both are in the same state, and so are all states that they saved. */
+    static void alike(String what, HintedPages pages, HintedPages due) {
+        same(what, pages.digest(), due.digest());
+        for (int left = due.count(11) - 1; left >= 0; left--) {
+            same(what + ", undone", answer(pages::undo), String.valueOf(left));
+            due.undo();
+            same(what + ", undone", pages.digest(), due.digest());
+        }
+        same(what + ", no more states", answer(pages::undo), STATE);
     }
 
     /** Prints the counts; the program ends with exit code 1 if an answer was not as due. */
@@ -61,6 +98,10 @@ final class Check {
         if (failed != 0 || passed == 0) {
             System.exit(1);
         }
+    }
+
+    private static boolean isThrown(String answer) {
+        return answer.startsWith("throws.");
     }
 
     private static void tell(boolean isDue, String what, String got, String due) {

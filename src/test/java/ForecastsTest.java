@@ -3,12 +3,9 @@ public final class ForecastsTest {
     public static void main(String[] args) {
         ifWritten();
         ifWrittenIsAsWriteDoes();
-        ifWrittenRefuses();
         ifRewritten();
-        ifRewrittenRefuses();
         bestRule();
         bestRuleInTheMiddle();
-        bestRuleRefuses();
         amplification();
         digest();
         Check.end("ForecastsTest");
@@ -44,35 +41,27 @@ public final class ForecastsTest {
         }
     }
 
-    private static void ifWrittenRefuses() {
-        HintedPages pages = Scenes.tight();
-        Check.throwsIndex("ifWritten(-1, 0, 0)", pages, () -> pages.ifWritten(-1, 0, 0));
-        Check.throwsIndex("ifWritten(40, 4, 3)", pages, () -> pages.ifWritten(40, 4, 3));
-        Check.throwsArgument("ifWritten(0, -1, 0)", pages, () -> pages.ifWritten(0, -1, 0));
-        Check.throwsArgument("ifWritten(0, 4, 0)", pages, () -> pages.ifWritten(0, 4, 0));
-        Check.throwsArgument("ifWritten(0, 0, -1)", pages, () -> pages.ifWritten(0, 0, -1));
-        Check.throwsArgument("ifWritten(0, 0, 3)", pages, () -> pages.ifWritten(0, 0, 3));
-    }
-
     /** Pages of several hints, some of them not written, others with a hint that came late. */
     private static HintedPages mixed() {
         HintedPages pages = new HintedPages();
-        for (int i = 0; i < 150; i++) {
-            pages.write(i * i % 37, i % 4);
+        for (int i = 0; i < 50; i++) {
+            pages.writeRow(i * i % 37, 3, i % 4);
         }
         pages.hint(1, 3);
         pages.hint(4, 0);
         pages.trim(9);
+        pages.trim(30);
         return pages;
     }
 
     private static int copiesByHand(HintedPages pages, int rounds) {
         int before = pages.count(7);
-        for (int round = 0; round < rounds; round++) {
-            for (int page = 0; page < 40; page++) {
-                int hint = pages.page(page, 2);
-                pages.write(page, hint == HintedPages.NONE ? 0 : hint);
-            }
+        int[] hints = new int[40];
+        for (int page = 0; page < 40; page++) {
+            hints[page] = Math.max(pages.page(page, 2), 0);
+        }
+        for (int i = 0; i < 40 * rounds; i++) {
+            pages.write(i % 40, hints[i % 40]);
         }
         return pages.count(7) - before;
     }
@@ -97,13 +86,6 @@ public final class ForecastsTest {
         int told = kept.ifRewritten(3);
         Check.same("by the settings", told, copiesByHand(kept, 3));
         Check.same("which copies some", told > 0 ? 1 : 0, 1);
-    }
-
-    private static void ifRewrittenRefuses() {
-        HintedPages pages = mixed();
-        Check.throwsArgument("ifRewritten(0)", pages, () -> pages.ifRewritten(0));
-        Check.throwsArgument("ifRewritten(-1)", pages, () -> pages.ifRewritten(-1));
-        Check.throwsArgument("ifRewritten(10)", pages, () -> pages.ifRewritten(10));
     }
 
     private static void bestRule() {
@@ -157,51 +139,47 @@ public final class ForecastsTest {
         return best;
     }
 
-    private static void bestRuleRefuses() {
-        HintedPages pages = mixed();
-        Check.throwsArgument("bestRule(0)", pages, () -> pages.bestRule(0));
-        Check.throwsArgument("bestRule(-1)", pages, () -> pages.bestRule(-1));
-        Check.throwsArgument("bestRule(10)", pages, () -> pages.bestRule(10));
+    private static void amplification() {
+        Scene fresh = HintedPages::new;
+        amplifies(fresh, 1.0);
+        Scene row = fresh.then(pages -> pages.writeRow(0, 8, 0));
+        amplifies(row, 1.0);
+        Scene copied = row.then(pages -> pages.collect(0));
+        amplifies(copied, 2.0);
+        Scene once = copied.then(pages -> pages.write(39, 0));
+        amplifies(once, 17.0 / 9.0);
+        Scene thrice = once.then(pages -> pages.write(39, 0), pages -> pages.write(39, 0));
+        amplifies(thrice, 19.0 / 11.0);
+        Scene worn = thrice.then(ForecastsTest::collectForty);
+        amplifies(worn, 339.0 / 11.0);
+        amplifies(worn.undone(1), 331.0 / 11.0);
     }
 
-    private static void amplification() {
-        HintedPages pages = new HintedPages();
-        amplifies(pages, 1.0);
-        pages.writeRow(0, 8, 0);
-        amplifies(pages, 1.0);
-        pages.collect(0);
-        amplifies(pages, 2.0);
-        pages.write(39, 0);
-        amplifies(pages, 17.0 / 9.0);
-        pages.write(39, 0);
-        pages.write(39, 0);
-        amplifies(pages, 19.0 / 11.0);
+    private static long collectForty(HintedPages pages) {
         for (int i = 0; i < 40; i++) {
             int block = pages.page(0, 0);
             Check.same("collected", pages.collect(block), 8);
         }
-        amplifies(pages, 339.0 / 11.0);
-        pages.undo();
-        amplifies(pages, 331.0 / 11.0);
+        return pages.count(7);
     }
 
-    private static void amplifies(HintedPages pages, double due) {
-        Check.same("amplification", Double.doubleToLongBits(pages.amplification()), Double.doubleToLongBits(due));
-        Check.same("its bits in the digest", pages.digest(), Looks.of(pages).digestWith(""));
+    private static void amplifies(Scene scene, double due) {
+        long bits = Double.doubleToLongBits(scene.make().amplification());
+        Check.same("amplification", bits, Double.doubleToLongBits(due));
+        Check.same("its bits in the digest", scene.make().digest(), Looks.of(scene).digestWith(""));
     }
 
     private static void digest() {
-        Check.same("a new object", new HintedPages().digest(), Looks.of(new HintedPages()).digestWith(""));
-        Check.same("a full store", Scenes.tight().digest(), Looks.of(Scenes.tight()).digestWith(""));
-        Check.same("many hints", mixed().digest(), Looks.of(mixed()).digestWith(""));
-        HintedPages pages = mixed();
-        pages.set(0, 1);
-        pages.set(1, 3);
-        Scenes.type(pages, "1-2h3;~!");
-        Check.same("with a buffer", pages.digest(), Looks.of(pages).digestWith("1-2h3;~!"));
-        long before = pages.digest();
-        Check.same("nothing is changed", pages.digest(), before);
-        pages.clearBuffer();
-        Check.same("the buffer counts", pages.digest() == before ? 1 : 0, 0);
+        digestIsOfLooks("a new object", HintedPages::new, "");
+        digestIsOfLooks("a full store", Scenes::tight, "");
+        digestIsOfLooks("a text", Scenes::few, "7-9h1;");
+        digestIsOfLooks("many hints", ForecastsTest::mixed, "");
+        Scene set = Scene.of(ForecastsTest::mixed).then(pages -> pages.set(0, 1), pages -> pages.set(1, 3));
+        digestIsOfLooks("other settings", set, "");
+        digestIsOfLooks("with a buffer", set.typed("1-2h3;~!"), "1-2h3;~!");
+    }
+
+    private static void digestIsOfLooks(String what, Scene scene, String buffer) {
+        Check.same("digest of " + what, scene.make().digest(), Looks.of(scene).digestWith(buffer));
     }
 }

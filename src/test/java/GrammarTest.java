@@ -11,15 +11,14 @@ public final class GrammarTest {
     }
 
     private static void eachPart() {
-        HintedPages pages = new HintedPages();
         for (int i = 0; i < Parts.number(); i++) {
-            judge(pages, Parts.part(i));
-            judge(pages, Parts.part(i) + ";" + Parts.part(Parts.number() - 1 - i));
+            judge(Parts.part(i));
+            judge(Parts.part(i) + ";" + Parts.part(Parts.number() - 1 - i));
         }
     }
 
     private static void eachShortText(String text, int more) {
-        judge(new HintedPages(), text);
+        judge(text);
         for (int i = 0; more > 0 && i < SIGNS.length(); i++) {
             // What follows an error changes nothing.
             if (Parts.mayGoOn(text)) {
@@ -29,16 +28,14 @@ public final class GrammarTest {
     }
 
     private static void eachSign() {
-        HintedPages pages = new HintedPages();
         for (String before : new String[] {"", "1", "1-", "1-2", "1-2h", "1-2h3", "1-2h3;", "7", "39"}) {
             for (char sign = 33; sign <= 126; sign++) {
-                judge(pages, before + sign);
+                judge(before + sign);
             }
         }
     }
 
     private static void thrownTexts() {
-        HintedPages pages = new HintedPages();
         Dice dice = new Dice(5);
         for (int i = 0; i < 20000; i++) {
             StringBuilder text = new StringBuilder();
@@ -48,13 +45,12 @@ public final class GrammarTest {
             if (dice.below(2) == 0) {
                 text.setCharAt(dice.below(text.length()), SIGNS.charAt(dice.below(SIGNS.length())));
             }
-            judge(pages, text.toString());
+            judge(text.toString());
         }
     }
 
-    private static void judge(HintedPages pages, String text) {
-        pages.clearBuffer();
-        Scenes.type(pages, text);
+    private static void judge(String text) {
+        HintedPages pages = Scenes.typed(text);
         Check.same("firstError of " + text, pages.firstError(), Parts.firstError(text));
         String answer = Check.answer(pages::writeAll);
         Check.same("writeAll of " + text, answer.startsWith("throws.") ? 0 : 1, Parts.areWrites(text) ? 1 : 0);

@@ -100,59 +100,79 @@ interface Looks {
         }
     }
 
-    static Looks of(HintedPages pages) {
-        return new OfPages(pages);
+    static Looks of(Scene scene) {
+        return new OfScene(scene);
     }
 
-    record OfPages(HintedPages pages) implements Looks {
+    /** Looks at objects that are made anew now and then, as each promises answers to 512 calls alone. */
+    final class OfScene implements Looks {
+        private static final int CALLS_OF_ONE = 250;
+
+        private final Scene scene;
+        private HintedPages latest;
+        private int calls = CALLS_OF_ONE;
+
+        private OfScene(Scene scene) {
+            this.scene = scene;
+        }
+
+        private HintedPages pages() {
+            if (calls == CALLS_OF_ONE) {
+                latest = scene.make();
+                calls = 0;
+            }
+            calls++;
+            return latest;
+        }
+
         @Override
         public int page(int page, int what) {
-            return pages.page(page, what);
+            return pages().page(page, what);
         }
 
         @Override
         public int block(int block, int what) {
-            return pages.block(block, what);
+            return pages().block(block, what);
         }
 
         @Override
         public int slot(int block, int slot, boolean isValid) {
-            return pages.slot(block, slot, isValid);
+            return pages().slot(block, slot, isValid);
         }
 
         @Override
         public int stream(int stream, int what) {
-            return pages.stream(stream, what);
+            return pages().stream(stream, what);
         }
 
         @Override
         public int count(int what) {
-            return pages.count(what);
+            return pages().count(what);
         }
 
         @Override
         public int setting(int setting) {
-            return pages.setting(setting);
+            return pages().setting(setting);
         }
 
         @Override
         public int ifWritten(int page, int hint, int what) {
-            return pages.ifWritten(page, hint, what);
+            return pages().ifWritten(page, hint, what);
         }
 
         @Override
         public int ifRewritten(int rounds) {
-            return pages.ifRewritten(rounds);
+            return pages().ifRewritten(rounds);
         }
 
         @Override
         public int bestRule(int rounds) {
-            return pages.bestRule(rounds);
+            return pages().bestRule(rounds);
         }
 
         @Override
         public double amplification() {
-            return pages.amplification();
+            return pages().amplification();
         }
     }
 }

@@ -1,8 +1,10 @@
 /** Promises 1 to 24: long runs of calls on HintedPages and on SlowPages answer alike. */
 public final class ModelTest {
-    private static final String INDEX = "throws.IndexOutOfBoundsException";
-    private static final String ARGUMENT = "throws.IllegalArgumentException";
-    private static final String STATE = "throws.IllegalStateException";
+    private static final String INDEX = Check.INDEX;
+    private static final String ARGUMENT = Check.ARGUMENT;
+    private static final String STATE = Check.STATE;
+    // No step makes more calls than are left to 512.
+    private static final int CALLS = 460;
 
     private final Dice dice;
     private final HintedPages pages = new HintedPages();
@@ -10,6 +12,7 @@ public final class ModelTest {
     // Runs differ in how many pages they use, as few pages leave other victims than many.
     private final int pagesUsed;
     private final int run;
+    private int calls = 0;
 
     private ModelTest(int run) {
         this.run = run;
@@ -18,23 +21,29 @@ public final class ModelTest {
     }
 
     public static void main(String[] args) {
-        for (int run = 1; run <= 120; run++) {
-            new ModelTest(run).calls();
+        for (int run = 1; run <= 400; run++) {
+            new ModelTest(run).steps();
         }
         Check.end("ModelTest");
     }
 
-    private void calls() {
-        for (int call = 0; call < 250; call++) {
+    private void steps() {
+        while (calls < CALLS) {
             change(dice.below(16));
             look(dice.below(9));
-            if (call % 50 == 49) {
-                Check.same("run " + run + ": looks", Looks.of(pages).all(), slow.all());
+            if (dice.below(8) == 0) {
+                digest();
             }
         }
+        digest();
+    }
+
+    private void digest() {
+        same("digest", "" + pages.digest(), "" + slow.digestWith(slow.buffer));
     }
 
     private void same(String call, String got, String due) {
+        calls++;
         Check.same("run " + run + ": " + call, got, due);
     }
 
@@ -231,10 +240,8 @@ public final class ModelTest {
     }
 
     private void rest() {
-        same("setting", "" + pages.setting(0) + pages.setting(1), "" + slow.setting(0) + slow.setting(1));
+        same("setting", "" + pages.setting(0), "" + slow.setting(0));
+        same("setting", "" + pages.setting(1), "" + slow.setting(1));
         same("amplification", "" + pages.amplification(), "" + slow.amplification());
-        if (dice.below(8) == 0) {
-            same("digest", "" + pages.digest(), "" + slow.digestWith(slow.buffer));
-        }
     }
 }

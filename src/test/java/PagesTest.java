@@ -9,49 +9,45 @@ public final class PagesTest {
         writeCollectsFirst();
         writeCopiesThePageThatItWrites();
         writeKeepsAsManyFreeBlocksAsSet();
-        writeRefuses();
         writeRow();
-        writeRowRefuses();
         trim();
-        trimRefuses();
         hint();
-        hintRefuses();
         Check.end("PagesTest");
     }
 
     private static void newObject() {
-        HintedPages pages = new HintedPages();
+        Looks looks = Looks.of(HintedPages::new);
         Check.same("NONE", HintedPages.NONE, -1);
         int[] counts = {0, 12, 0, 0, 0, 96, 0, 0, 0, 0, -1, 0};
         for (int what = 0; what < counts.length; what++) {
-            Check.same("new count " + what, pages.count(what), counts[what]);
+            Check.same("new count " + what, looks.count(what), counts[what]);
         }
         int[] ofBlock = {0, -1, 0, 0, 8, 0, -1, 0};
         for (int block = 0; block < 12; block++) {
             for (int what = 0; what < ofBlock.length; what++) {
-                Check.same("new block " + block + ", " + what, pages.block(block, what), ofBlock[what]);
+                Check.same("new block " + block + ", " + what, looks.block(block, what), ofBlock[what]);
             }
             for (int slot = 0; slot < 8; slot++) {
-                Check.same("new slot", pages.slot(block, slot, false), -1);
-                Check.same("new valid slot", pages.slot(block, slot, true), -1);
+                Check.same("new slot", looks.slot(block, slot, false), -1);
+                Check.same("new valid slot", looks.slot(block, slot, true), -1);
             }
         }
         int[] ofPage = {-1, -1, -1, 0, 0, 0};
         for (int page = 0; page < 40; page++) {
             for (int what = 0; what < ofPage.length; what++) {
-                Check.same("new page " + page + ", " + what, pages.page(page, what), ofPage[what]);
+                Check.same("new page " + page + ", " + what, looks.page(page, what), ofPage[what]);
             }
         }
         int[] ofStream = {-1, 0, 0, 0, 0};
         for (int stream = 0; stream < 5; stream++) {
             for (int what = 0; what < ofStream.length; what++) {
-                Check.same("new stream", pages.stream(stream, what), ofStream[what]);
+                Check.same("new stream", looks.stream(stream, what), ofStream[what]);
             }
         }
-        Check.same("new setting 0", pages.setting(0), 0);
-        Check.same("new setting 1", pages.setting(1), 2);
-        Check.same("new firstError", pages.firstError(), 0);
-        Check.same("new clearBuffer", pages.clearBuffer(), 0);
+        Check.same("new setting 0", looks.setting(0), 0);
+        Check.same("new setting 1", looks.setting(1), 2);
+        Check.same("new firstError", new HintedPages().firstError(), 0);
+        Check.same("new clearBuffer", new HintedPages().clearBuffer(), 0);
     }
 
     private static void newObjectsShareNothing() {
@@ -81,7 +77,6 @@ public final class PagesTest {
         Check.same("each stream has its own", pages.page(1, 0), 2);
         Check.same("opened for stream 0", pages.block(1, 1), 0);
         Check.same("opened for stream 3", pages.block(2, 1), 3);
-        Check.undoable("write", pages, () -> pages.write(39, 1));
     }
 
     private static void writeOpensTheBlockWithFewestErasures() {
@@ -135,8 +130,6 @@ public final class PagesTest {
         Check.same("writes", pages.count(6), 82);
         Check.same("copies", pages.count(7), 2);
         Check.same("erasures", pages.count(8), 2);
-        HintedPages again = Scenes.tight();
-        Check.undoable("write with copies", again, () -> again.write(39, 0));
     }
 
     private static void writeCopiesThePageThatItWrites() {
@@ -157,28 +150,6 @@ public final class PagesTest {
         pages.set(1, 4);
         Check.same("two more are collected", pages.write(39, 1), 3);
         Check.same("four were free, one was opened", pages.count(1), 3);
-        Check.same("no victim, no collection", countAfterFullRow(), 0);
-    }
-
-    private static int countAfterFullRow() {
-        HintedPages pages = new HintedPages();
-        pages.set(1, 4);
-        pages.writeRow(0, 40, 0);
-        for (int hint = 1; hint < 4; hint++) {
-            pages.trim(39 - hint);
-            pages.write(39 - hint, hint);
-        }
-        return pages.count(7);
-    }
-
-    private static void writeRefuses() {
-        HintedPages pages = Scenes.tight();
-        Check.throwsIndex("write(-1, 0)", pages, () -> pages.write(-1, 0));
-        Check.throwsIndex("write(40, 0)", pages, () -> pages.write(40, 0));
-        Check.throwsIndex("write(40, 4)", pages, () -> pages.write(40, 4));
-        Check.throwsIndex("write(MIN, -1)", pages, () -> pages.write(Integer.MIN_VALUE, -1));
-        Check.throwsArgument("write(0, -1)", pages, () -> pages.write(0, -1));
-        Check.throwsArgument("write(39, 4)", pages, () -> pages.write(39, 4));
     }
 
     private static void writeRow() {
@@ -193,23 +164,9 @@ public final class PagesTest {
         Check.same("one page", pages.writeRow(39, 1, 0), 0);
         Check.same("all pages", pages.writeRow(0, 40, 3), 0);
         Check.same("written pages", pages.count(0), 40);
-        Check.undoable("writeRow", pages, () -> pages.writeRow(0, 40, 1));
         HintedPages tight = Scenes.tight();
         Check.same("a row copies", tight.writeRow(38, 2, 0), 2);
         Check.same("a long row copies", Scenes.tight().writeRow(0, 10, 1), 3);
-    }
-
-    private static void writeRowRefuses() {
-        HintedPages pages = Scenes.tight();
-        Check.throwsIndex("writeRow(-1, 1, 0)", pages, () -> pages.writeRow(-1, 1, 0));
-        Check.throwsIndex("writeRow(40, 0, 4)", pages, () -> pages.writeRow(40, 0, 4));
-        Check.throwsArgument("writeRow(0, 0, 0)", pages, () -> pages.writeRow(0, 0, 0));
-        Check.throwsArgument("writeRow(0, -1, 0)", pages, () -> pages.writeRow(0, -1, 0));
-        Check.throwsArgument("writeRow(0, 41, 0)", pages, () -> pages.writeRow(0, 41, 0));
-        Check.throwsArgument("writeRow(39, 2, 0)", pages, () -> pages.writeRow(39, 2, 0));
-        Check.throwsArgument("writeRow(1, MAX, 0)", pages, () -> pages.writeRow(1, Integer.MAX_VALUE, 0));
-        Check.throwsArgument("writeRow(0, 1, 4)", pages, () -> pages.writeRow(0, 1, 4));
-        Check.throwsArgument("writeRow(0, 1, -1)", pages, () -> pages.writeRow(0, 1, -1));
     }
 
     private static void trim() {
@@ -228,16 +185,8 @@ public final class PagesTest {
         Check.same("old slots", pages.block(11, 3), 1);
         Check.same("valid slots", pages.block(11, 2), 0);
         Check.same("no more", pages.trim(5), -1);
-        Check.undoable("trim", pages, () -> pages.trim(39));
-        Check.undoable("trim of nothing", pages, () -> pages.trim(39));
         pages.write(39, 1);
         Check.same("written again", pages.page(39, 2), 1);
-    }
-
-    private static void trimRefuses() {
-        HintedPages pages = Scenes.tight();
-        Check.throwsIndex("trim(-1)", pages, () -> pages.trim(-1));
-        Check.throwsIndex("trim(40)", pages, () -> pages.trim(40));
     }
 
     private static void hint() {
@@ -247,21 +196,9 @@ public final class PagesTest {
         Check.same("it stays", pages.page(0, 0), 0);
         Check.same("it is not programmed", pages.page(0, 3), 1);
         Check.same("previous again", pages.hint(0, 3), 3);
-        Check.undoable("hint", pages, () -> pages.hint(0, 1));
-        Check.undoable("the same hint", pages, () -> pages.hint(0, 1));
+        Check.same("and another", pages.hint(0, 1), 3);
         pages.collect(0);
         Check.same("copied with the hint that it has", pages.stream(1, 3), 1);
         Check.same("and not with that of its write", pages.stream(0, 3), 0);
-    }
-
-    private static void hintRefuses() {
-        HintedPages pages = Scenes.tight();
-        Check.throwsIndex("hint(-1, 9)", pages, () -> pages.hint(-1, 9));
-        Check.throwsIndex("hint(40, 0)", pages, () -> pages.hint(40, 0));
-        Check.throwsArgument("hint(0, -1)", pages, () -> pages.hint(0, -1));
-        Check.throwsArgument("hint(20, 4), not written", pages, () -> pages.hint(20, 4));
-        Check.throwsState("hint(20, 0), not written", pages, () -> pages.hint(20, 0));
-        pages.trim(0);
-        Check.throwsState("hint(0, 0), trimmed", pages, () -> pages.hint(0, 0));
     }
 }

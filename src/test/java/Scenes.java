@@ -25,15 +25,39 @@ final class Scenes {
         return pages;
     }
 
+    /**
+     * Much as tight(), with three saved states alone, and text in the buffer: page k is valid in
+     * block k, and the pages 33 to 39 in block 9; the other slots of the blocks 0 to 8 are old.
+     */
+    static HintedPages few() {
+        HintedPages pages = typed("0;33-39;1;33-39;2;33-39;3;33-39;4;33-39");
+        pages.writeAll();
+        type(pages, "5;33-39;6;33-39;7;33-39;8;33-39;9;33-39");
+        pages.writeAll();
+        pages.write(10, 0);
+        type(pages, "7-9h1;");
+        return pages;
+    }
+
+    /** All pages are valid, in the blocks 0 to 4, and no slot is old: there is no victim. */
+    static HintedPages packed() {
+        HintedPages pages = new HintedPages();
+        pages.writeRow(0, 40, 0);
+        return pages;
+    }
+
     static HintedPages typed(String text) {
         HintedPages pages = new HintedPages();
         type(pages, text);
         return pages;
     }
 
-    static void type(HintedPages pages, String text) {
+    /** Returns the length of the buffer behind it. */
+    static int type(HintedPages pages, String text) {
+        int length = 0;
         for (int i = 0; i < text.length(); i++) {
-            pages.append(text.charAt(i));
+            length = pages.append(text.charAt(i));
         }
+        return length;
     }
 }
