@@ -169,10 +169,10 @@ public final class CollectingEdgesTest {
         HintedPages pages = erasedOnce();
         pages.set(0, 2);
         Check.same("no old slot", pages.count(10), -1);
-        trimRow(pages, 0, 7);
+        trimRow(pages, 0, 8);
         Check.same("the only one, erased once", pages.count(10), 0);
         pages.trim(8);
-        Check.same("never erased, though with more valid slots", pages.count(10), 8);
+        Check.same("never erased, though with seven valid slots to none", pages.count(10), 8);
         trimRow(pages, 24, 2);
         Check.same("fewer valid slots", pages.count(10), 10);
         trimRow(pages, 16, 2);

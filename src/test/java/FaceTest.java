@@ -48,6 +48,7 @@ public final class FaceTest {
         methods();
         fields();
         insides();
+        limits(HintedPages.class);
         source(Files.readString(Path.of("src/main/java/HintedPages.java")));
         Check.end("FaceTest");
     }
@@ -107,10 +108,23 @@ public final class FaceTest {
             int modifiers = inside.getModifiers();
             Check.same(inside + " is static", Modifier.isStatic(modifiers) ? 1 : 0, 1);
             Check.same(inside + " is not open", Modifier.isPublic(modifiers) || Modifier.isProtected(modifiers) ? 1 : 0, 0);
-            for (Field field : inside.getDeclaredFields()) {
-                boolean isOpen = Modifier.isStatic(field.getModifiers()) && !Modifier.isFinal(field.getModifiers());
-                Check.same(field + " is no static state", isOpen ? 1 : 0, 0);
-            }
+            limits(inside);
+        }
+        Check.same("a dozen classes", HintedPages.class.getDeclaredClasses().length < 12 ? 1 : 0, 1);
+    }
+
+    /** Rules 5 and 11: static fields are constants, and nothing is larger than it may be. */
+    private static void limits(Class<?> type) {
+        int fields = 0;
+        for (Field field : type.getDeclaredFields()) {
+            boolean isStatic = Modifier.isStatic(field.getModifiers());
+            boolean isConstant = Modifier.isFinal(field.getModifiers()) && field.getType() == int.class;
+            Check.same(field + " is no static state", isStatic && !isConstant ? 1 : 0, 0);
+            fields += isStatic ? 0 : 1;
+        }
+        Check.same(type + " has few fields", fields <= 20 ? 1 : 0, 1);
+        for (Method method : type.getDeclaredMethods()) {
+            Check.same(method + " has few parameters", method.getParameterCount() <= 7 ? 1 : 0, 1);
         }
     }
 
@@ -122,10 +136,23 @@ public final class FaceTest {
             Matcher found = Pattern.compile(banned).matcher(code);
             Check.same("no " + banned, found.find() ? found.group() : "none", "none");
         }
+        Check.same("each throw is of a written text", number(code, "\\bthrow\\b"),
+            number(code, "throw new (" + INDEX + "|" + ARGUMENT + "|" + STATE + ")\\(\"\"\\);"));
+        Check.same("no method is longer than 60 lines",
+            number(code, "(?m)^( {4}| {8})(?!.*\\bclass\\b)\\S.*\\{\n(?:(?!\\1\\}).*\n){61}"), 0);
         Matcher imports = Pattern.compile("import ([^;]*);").matcher(code);
         while (imports.find()) {
             String name = imports.group(1);
             Check.same("import of " + name, name.matches("java\\.util\\.(Arrays|List|ArrayList)") ? 1 : 0, 1);
         }
+    }
+
+    private static int number(String code, String pattern) {
+        Matcher found = Pattern.compile(pattern).matcher(code);
+        int number = 0;
+        while (found.find()) {
+            number++;
+        }
+        return number;
     }
 }

@@ -1,6 +1,10 @@
 /** The sentences of the promises 20 to 24 that name a boundary case, a test each. */
 public final class ForecastsEdgesTest {
     private static final String SIXTY = "0-39;".repeat(11) + "~~~~~";
+    // In this state one round copies 58, 50 and 55 pages by the rules 0 to 2.
+    private static final int MIDDLE = 369;
+    // In this state the best rules of one, two and three rounds are 2, 1 and 0.
+    private static final int UNLIKE_ROUNDS = 57;
 
     public static void main(String[] args) {
         ifWrittenPageRange();
@@ -25,6 +29,8 @@ public final class ForecastsEdgesTest {
         digestOfANewObject();
         digestCountsTheBuffer();
         digestCountsTheSavedStates();
+        digestOfForecasts();
+        digestOfAmplification();
         nothingIsChanged();
         Check.end("ForecastsEdgesTest");
     }
@@ -92,6 +98,7 @@ public final class ForecastsEdgesTest {
         tells(pages, 0, 0, 0, 8, 0);
         Check.same("three are free, fewer than kept", pages.count(1), 3);
         tells(pages, 0, 0, 7, 8, 1);
+        tells(pages, 0, 3, 0, 7, 0);
     }
 
     /** Promise 20, with "until then its former slot stays valid, and can be copied". */
@@ -129,19 +136,6 @@ public final class ForecastsEdgesTest {
         return pages;
     }
 
-    /** The copies by the pages written by hand, so often; the hints are those of the first round. */
-    private static int copiesByHand(HintedPages pages, int rounds) {
-        int before = pages.count(7);
-        int[] hints = new int[40];
-        for (int page = 0; page < 40; page++) {
-            hints[page] = Math.max(pages.page(page, 2), 0);
-        }
-        for (int i = 0; i < 40 * rounds; i++) {
-            pages.write(i % 40, hints[i % 40]);
-        }
-        return pages.count(7) - before;
-    }
-
     /** Promise 21, "each with the hint that it has, 0 if it is not written": not that before a trim. */
     private static void ifRewrittenHintOfEachPage() {
         Scene trimmed = Scene.of(ForecastsEdgesTest::manyHints).then(pages -> pages.trim(1),
@@ -149,7 +143,7 @@ public final class ForecastsEdgesTest {
         for (int rounds = 1; rounds <= 9; rounds++) {
             int copies = trimmed.make().ifRewritten(rounds);
             Check.same("some are copied", copies > 0 ? 1 : 0, 1);
-            Check.same("rounds " + rounds, copies, copiesByHand(trimmed.make(), rounds));
+            Check.same("rounds " + rounds, copies, Scenes.rewrite(trimmed.make(), rounds));
         }
     }
 
@@ -173,7 +167,7 @@ public final class ForecastsEdgesTest {
                 int free = kept;
                 Scene set = Scene.of(ForecastsEdgesTest::manyHints).then(pages -> pages.set(0, value),
                     pages -> pages.set(1, free));
-                Check.same("copies", set.make().ifRewritten(4), copiesByHand(set.make(), 4));
+                Check.same("copies", set.make().ifRewritten(4), Scenes.rewrite(set.make(), 4));
             }
         }
     }
@@ -207,6 +201,11 @@ public final class ForecastsEdgesTest {
             }
         }
         Check.same("each rule is best at times", told[0] && told[1] && told[2] ? 1 : 0, 1);
+        int middle = worn(MIDDLE, 1).ifRewritten(1);
+        int last = worn(MIDDLE, 2).ifRewritten(1);
+        Check.same("two are better than rule 0", last < worn(MIDDLE, 0).ifRewritten(1) ? 1 : 0, 1);
+        Check.same("the first of them is the best", middle < last ? 1 : 0, 1);
+        Check.same("it is told", worn(MIDDLE, 0).bestRule(1), 1);
     }
 
     private static int bestByRules(int seed, int rounds) {
@@ -220,11 +219,12 @@ public final class ForecastsEdgesTest {
     }
 
     private static HintedPages worn(int seed, int rule) {
-        HintedPages pages = manyHints();
-        for (int i = 0; i < 10; i++) {
-            pages.writeRow((seed * 7 + i * 11) % 35, 1 + (i + seed) % 5, (i * seed) % 4);
-            pages.writeRow(0, (i * 13 + seed) % 9 + 1, i % 4);
+        Dice dice = new Dice(seed);
+        HintedPages pages = new HintedPages();
+        for (int i = 0; i < 40; i++) {
+            pages.writeRow(dice.below(35), 1 + dice.below(5), dice.below(4));
         }
+        pages.set(1, 4);
         pages.set(0, rule);
         return pages;
     }
@@ -299,6 +299,28 @@ public final class ForecastsEdgesTest {
             Check.same("saved " + saved, scene.make().digest(), Looks.of(scene).digestWith(""));
             scene = scene.then(pages -> pages.tidy(1));
         }
+    }
+
+    /** Promise 24, "ifRewritten of 1; bestRule of 2": of a state in which other rounds tell others. */
+    private static void digestOfForecasts() {
+        Scene scene = () -> worn(UNLIKE_ROUNDS, 0);
+        HintedPages pages = scene.make();
+        Check.same("one round", pages.bestRule(1), 2);
+        Check.same("two rounds", pages.bestRule(2), 1);
+        Check.same("three rounds", pages.bestRule(3), 0);
+        Check.same("one and two", pages.ifRewritten(1) == pages.ifRewritten(2) ? 1 : 0, 0);
+        Check.same("digest", pages.digest(), Looks.of(scene).digestWith(""));
+    }
+
+    /** Promise 24, "the bits of amplification": below 2, at 2 and 4, and above. */
+    private static void digestOfAmplification() {
+        Scene scene = Scene.of(HintedPages::new).then(pages -> pages.writeRow(0, 8, 0));
+        for (int copies = 0; copies <= 80; copies += 8) {
+            Check.same("8 and " + copies, scene.make().digest(), Looks.of(scene).digestWith(""));
+            scene = scene.then(pages -> pages.collect(pages.page(0, 0)));
+        }
+        Scene third = Scene.of(Scenes::tight).then(pages -> pages.writeRow(0, 39, 1), pages -> pages.tidy(12));
+        Check.same("a long fraction", third.make().digest(), Looks.of(third).digestWith(""));
     }
 
     /** The public face, "what would be; nothing is changed", and nothing is saved. */

@@ -54,18 +54,6 @@ public final class ForecastsTest {
         return pages;
     }
 
-    private static int copiesByHand(HintedPages pages, int rounds) {
-        int before = pages.count(7);
-        int[] hints = new int[40];
-        for (int page = 0; page < 40; page++) {
-            hints[page] = Math.max(pages.page(page, 2), 0);
-        }
-        for (int i = 0; i < 40 * rounds; i++) {
-            pages.write(i % 40, hints[i % 40]);
-        }
-        return pages.count(7) - before;
-    }
-
     private static void ifRewritten() {
         Check.same("a new object", new HintedPages().ifRewritten(9), 0);
         for (int rounds = 1; rounds <= 9; rounds++) {
@@ -73,18 +61,18 @@ public final class ForecastsTest {
             long before = pages.digest();
             int told = pages.ifRewritten(rounds);
             Check.same("nothing is changed", pages.digest(), before);
-            Check.same("rounds " + rounds, told, copiesByHand(pages, rounds));
+            Check.same("rounds " + rounds, told, Scenes.rewrite(pages, rounds));
         }
         HintedPages copied = Scenes.tight();
         copied.writeRow(0, 40, 2);
         Check.same("copies before", copied.count(7) > 0 ? 1 : 0, 1);
         int more = copied.ifRewritten(2);
-        Check.same("copies by these alone", more, copiesByHand(copied, 2));
+        Check.same("copies by these alone", more, Scenes.rewrite(copied, 2));
         HintedPages kept = mixed();
         kept.set(0, 2);
         kept.set(1, 4);
         int told = kept.ifRewritten(3);
-        Check.same("by the settings", told, copiesByHand(kept, 3));
+        Check.same("by the settings", told, Scenes.rewrite(kept, 3));
         Check.same("which copies some", told > 0 ? 1 : 0, 1);
     }
 

@@ -411,20 +411,29 @@ public final class LooksEdgesTest {
         HintedPages pages = new HintedPages();
         Check.same("at first", pages.count(9), 0);
         for (int block = 0; block < 12; block++) {
-            pages.writeRow(0, 8, 0);
-            for (int page = 0; page < 8; page++) {
-                pages.trim(page);
-            }
-            pages.collect(block);
+            useUp(pages, block);
             Check.same("one less none, but of all one", pages.count(9), block < 11 ? 1 : 0);
         }
-        HintedPages last = Scenes.tight();
-        for (int block = 0; block < 8; block++) {
-            last.collect(block);
+        HintedPages first = new HintedPages();
+        first.writeRow(10, 8, 0);
+        for (int block = 1; block < 12; block++) {
+            useUp(first, block);
+            Check.same("the first one was never erased", first.count(9), 1);
         }
-        last.collect(11);
-        Check.same("one less none", last.count(9), 1);
-        Check.same("nine erasures", last.count(8), 9);
+        for (int block = 0; block < 10; block++) {
+            HintedPages one = Scenes.spread();
+            one.collect(block);
+            Check.same("one alone, less none", one.count(9), 1);
+        }
+    }
+
+    /** Fills this block, which is the next that is opened, trims its pages and collects it. */
+    private static void useUp(HintedPages pages, int block) {
+        pages.writeRow(0, 8, 0);
+        for (int page = 0; page < 8; page++) {
+            pages.trim(page);
+        }
+        Check.same("no copies", pages.collect(block), 0);
     }
 
     /** Promise 18, "10: the victim, NONE if there is none". */

@@ -46,6 +46,19 @@ final class Scenes {
         return pages;
     }
 
+    /** Writes all pages, so often, each with the hint that it has; returns how many are copied. */
+    static int rewrite(HintedPages pages, int rounds) {
+        int before = pages.count(7);
+        int[] hints = new int[40];
+        for (int page = 0; page < 40; page++) {
+            hints[page] = Math.max(pages.page(page, 2), 0);
+        }
+        for (int i = 0; i < 40 * rounds; i++) {
+            pages.write(i % 40, hints[i % 40]);
+        }
+        return pages.count(7) - before;
+    }
+
     static HintedPages typed(String text) {
         HintedPages pages = new HintedPages();
         type(pages, text);
